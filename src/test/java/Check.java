@@ -36,6 +36,13 @@ final class Check {
         }
     }
 
+    static void corners(String what, StandTests s, int... due) {
+        for (int k = 0; k < due.length; k++) {
+            same("corner " + k + ": " + what, s.side(k), due[k]);
+        }
+        same("behind the last corner: " + what, s.side(due.length), StandTests.NONE);
+    }
+
     static void badState(String what, Call call) {
         sameText(what, outcome(call), "throws.IllegalStateException");
     }
