@@ -209,7 +209,8 @@ public final class EdgesTest {
 
     // Promise 4: "IndexOutOfBoundsException": "there is no such part"
     private static void drawerParts() {
-        intEdges("drawer of one part", 0, 0, "throws.IndexOutOfBoundsException", v -> Made.tableWithParts(1).drawer(v, 1));
+        intEdges("drawer of one part", 0, 0, "throws.IndexOutOfBoundsException",
+            v -> Made.tableWithParts(1).drawer(v, 1));
         intEdges("drawer of three parts", 0, 2, "throws.IndexOutOfBoundsException",
             v -> Made.tableWithParts(3).drawer(v, 1));
         intEdges("drawer of 16 parts", 0, 15, "throws.IndexOutOfBoundsException",
@@ -720,7 +721,7 @@ public final class EdgesTest {
         Check.sameDouble("D is -1", clock.wobble(0, 3, 4, 0), 7.0);
         StandTests hair = Made.withFeet(-FAR, -FAR, FAR, FAR, FAR, FAR - 1, -FAR, FAR);
         // D = -2 FAR, p4 x p3 = -4 FAR FAR, p2 x p4 = 4 FAR FAR
-        Check.sameDouble("a hair's breadth", hair.wobble(0, 1000, -1000, 1), 1.0 - 4000.0 * FAR < 0 ? 4000.0 * FAR - 1 : 0);
+        Check.sameDouble("a hair's breadth", hair.wobble(0, 1000, -1000, 1), 4000.0 * FAR - 1);
     }
 
     // Promise 15: "the size of z4 - (z2 * (p4 x p3) + z3 * (p2 x p4)) / D"
@@ -731,7 +732,9 @@ public final class EdgesTest {
         StandTests moved = Made.withFeet(1000, -500, 930, -495, 966, -424, 942, -562);
         Check.sameDouble("less the first one's place", moved.wobble(-7, -11, -4, -13), 1.7580582524271842);
         Check.sameDouble("less the first one's height", moved.wobble(993, 989, 996, 987), 1.7580582524271842);
-        Check.sameDouble("a third", Made.withFeet(0, 0, 3, 0, 0, 3, 1, 1).wobble(0, 1, 0, 0), 1.0 / 3.0);
+        StandTests third = Made.withFeet(0, 0, 3, 0, 0, 3, 1, 1);
+        Check.sameDouble("a third below", third.wobble(0, 1, 0, 0), 1.0 / 3.0);
+        Check.sameDouble("a third above", third.wobble(0, -1, 0, 0), 1.0 / 3.0);
     }
 
     // Promise 16: "load or span is not 0 .. 10000, or width or thick not 0.125 .. 1000"

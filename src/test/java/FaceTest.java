@@ -23,7 +23,8 @@ public final class FaceTest {
         "public int StandTests.most()" + STATE,
         "public boolean StandTests.unit(int)",
         "public int StandTests.rules()",
-        "public int StandTests.test(int,int)" + INDEX + ",java.lang.IllegalArgumentException,java.lang.IllegalStateException",
+        "public int StandTests.test(int,int)" + INDEX
+            + ",java.lang.IllegalArgumentException,java.lang.IllegalStateException",
         "public boolean StandTests.anchor()" + STATE,
         "public double StandTests.wobble(long,long,long,long)" + STATE + ",java.lang.IllegalArgumentException",
         "public double StandTests.bend(double,double,double,double)" + ILLEGAL,

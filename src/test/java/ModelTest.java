@@ -95,7 +95,8 @@ public final class ModelTest {
             case 1, 2 -> compare(run, "foot", () -> "" + s.foot(a, b), () -> "" + m.foot(a, b));
             case 3 -> compare(run, "drawer", () -> "" + s.drawer(i, a), () -> "" + m.drawer(i, a));
             case 4 -> compare(run, "person", () -> "" + s.person(a, b, g), () -> "" + m.person(a, b, g));
-            case 5 -> compare(run, "centre", () -> "" + s.centre(j, (int) (g & 1)), () -> "" + m.centre(j, (int) (g & 1)));
+            case 5 -> compare(run, "centre", () -> "" + s.centre(j, (int) (g & 1)),
+                () -> "" + m.centre(j, (int) (g & 1)));
             case 6 -> compare(run, "centre wild", () -> "" + s.centre(i, j), () -> "" + m.centre(i, j));
             case 7 -> compare(run, "side", () -> "" + s.side(i), () -> "" + m.side(i));
             case 8 -> compare(run, "tips", () -> "" + s.tips(i), () -> "" + m.tips(i));
@@ -103,7 +104,8 @@ public final class ModelTest {
             case 10 -> compare(run, "most", () -> "" + s.most(), () -> "" + m.most());
             case 11 -> compare(run, "test", () -> "" + s.test(i, j), () -> "" + m.test(i, j));
             case 12 -> compare(run, "anchor", () -> "" + s.anchor(), () -> "" + m.anchor());
-            case 13 -> compare(run, "wobble", () -> "" + s.wobble(a % 1003, b, c, g), () -> "" + m.wobble(a % 1003, b, c, g));
+            case 13 -> compare(run, "wobble", () -> "" + s.wobble(a % 1003, b, c, g),
+                () -> "" + m.wobble(a % 1003, b, c, g));
             case 14 -> compare(run, "bend", () -> "" + s.bend(d, e, f, h), () -> "" + m.bend(d, e, f, h));
             case 15 -> compare(run, "creep", () -> "" + s.creep(i * 113), () -> "" + m.creep(i * 113));
             default -> compare(run, "gap", () -> "" + s.gap(a), () -> "" + m.gap(a));

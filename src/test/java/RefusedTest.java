@@ -105,7 +105,7 @@ public final class RefusedTest {
     private static void onALine() {
         RefusedTest t = new RefusedTest("on a line", RefusedTest::line, 0, 0, 0);
         t.wrongNumbers();
-        t.wrongOut();
+        t.wrongOut(0);
         t.noPolygon();
         t.noFourFeet();
         t.noGrams();
@@ -118,7 +118,8 @@ public final class RefusedTest {
     private static void onSome() {
         RefusedTest t = new RefusedTest("some of each", RefusedTest::some, 5, 7, 11);
         t.wrongNumbers();
-        t.wrongOut();
+        t.wrongOut(0);
+        t.wrongOut(2);
         t.wrongQuestions(3, 4, 2);
         t.wrongHeights();
         t.after("the same person", "false", s -> s.person(5, 7, 11));
@@ -130,7 +131,8 @@ public final class RefusedTest {
 
     private static void onFull() {
         RefusedTest t = new RefusedTest("full", RefusedTest::full, 1, 6, 40);
-        t.wrongOut();
+        t.wrongOut(0);
+        t.wrongOut(15);
         t.wrongQuestions(12, 12, 8);
         t.wrongHeights();
         t.after("a 17th part", STATE, s -> s.part(50, 50, 50, HEAVY));
@@ -179,10 +181,9 @@ public final class RefusedTest {
         }
     }
 
-    // The object has a part 0.
-    private void wrongOut() {
+    private void wrongOut(int part) {
         for (long v : new long[] {0, -1, FAR + 1, Long.MIN_VALUE, Long.MAX_VALUE, (1L << 32) + 3}) {
-            after("out " + v, ARGUMENT, s -> s.drawer(0, v));
+            after("part " + part + " out " + v, ARGUMENT, s -> s.drawer(part, v));
         }
     }
 

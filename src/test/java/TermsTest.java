@@ -99,27 +99,35 @@ public final class TermsTest {
         Check.corners("in the middle, told first", Made.withFeet(5, 5, 0, 0, 10, 0, 10, 10, 0, 10), 1, 2, 3, 4);
         Check.corners("just inside of the first side", Made.withFeet(0, 0, 10, 0, 10, 10, 0, 10, 5, 1), 0, 1, 2, 3);
         Check.corners("just inside of the last side", Made.withFeet(0, 0, 10, 0, 10, 10, 0, 10, 1, 5), 0, 1, 2, 3);
-        Check.corners("just outside of the first side", Made.withFeet(0, 0, 10, 0, 10, 10, 0, 10, 5, -1), 0, 4, 1, 2, 3);
-        Check.corners("just outside of the second side", Made.withFeet(0, 0, 10, 0, 10, 10, 0, 10, 11, 5), 0, 1, 4, 2, 3);
-        Check.corners("just outside of the third side", Made.withFeet(0, 0, 10, 0, 10, 10, 0, 10, 5, 11), 0, 1, 2, 4, 3);
-        Check.corners("just outside of the last side", Made.withFeet(0, 0, 10, 0, 10, 10, 0, 10, -1, 5), 4, 0, 1, 2, 3);
-        Check.corners("all the others in the middle", Made.withFeet(0, 0, 9, 0, 0, 9, 1, 1, 2, 2, 1, 2, 2, 1, 3, 3, 3, 1, 1, 3,
-            4, 4, 1, 7), 0, 1, 2);
+        Check.corners("just outside of the first side",
+            Made.withFeet(0, 0, 10, 0, 10, 10, 0, 10, 5, -1), 0, 4, 1, 2, 3);
+        Check.corners("just outside of the second side",
+            Made.withFeet(0, 0, 10, 0, 10, 10, 0, 10, 11, 5), 0, 1, 4, 2, 3);
+        Check.corners("just outside of the third side",
+            Made.withFeet(0, 0, 10, 0, 10, 10, 0, 10, 5, 11), 0, 1, 2, 4, 3);
+        Check.corners("just outside of the last side",
+            Made.withFeet(0, 0, 10, 0, 10, 10, 0, 10, -1, 5), 4, 0, 1, 2, 3);
+        Check.corners("all the others in the middle",
+            Made.withFeet(0, 0, 9, 0, 0, 9, 1, 1, 2, 2, 1, 2, 2, 1, 3, 3, 3, 1, 1, 3, 4, 4, 1, 7), 0, 1, 2);
     }
 
     // "or on a line between, others"
     private static void onALine() {
-        long[][] between = {{5, 0}, {10, 5}, {5, 10}, {0, 5}, {1, 0}, {9, 0}, {10, 1}, {10, 9}, {9, 10}, {1, 10}, {0, 9},
-            {0, 1}};
+        long[][] between = {{5, 0}, {10, 5}, {5, 10}, {0, 5}, {1, 0}, {9, 0}, {10, 1}, {10, 9}, {9, 10}, {1, 10},
+            {0, 9}, {0, 1}};
         for (long[] p : between) {
             String place = "a foot at " + p[0] + ", " + p[1];
             Check.corners(place + ", told last", Made.withFeet(0, 0, 10, 0, 10, 10, 0, 10, p[0], p[1]), 0, 1, 2, 3);
             Check.corners(place + ", told first", Made.withFeet(p[0], p[1], 0, 0, 10, 0, 10, 10, 0, 10), 1, 2, 3, 4);
         }
-        Check.corners("two on each side of a triangle", Made.withFeet(6, 0, 3, 0, 0, 3, 0, 6, 3, 6, 6, 3, 9, 0, 0, 9, 0, 0),
-            8, 6, 7);
-        Check.corners("on slanted sides", Made.withFeet(0, 0, -2, 1, -4, 2, 2, 1, -2, 3, 6, 3, 4, 2, 0, 4, 4, 4, 2, 5),
-            2, 0, 5, 9);
+        Check.corners("two on each side of a triangle",
+            Made.withFeet(6, 0, 3, 0, 0, 3, 0, 6, 3, 6, 6, 3, 9, 0, 0, 9, 0, 0), 8, 6, 7);
+        Check.corners("on slanted sides",
+            Made.withFeet(0, 0, -2, 1, -4, 2, 2, 1, -2, 3, 6, 3, 4, 2, 0, 4, 4, 4, 2, 5), 2, 0, 5, 9);
+        Check.corners("on an upright side from a place of one number",
+            Made.withFeet(0, 7, 7, 7, 7, 9, 7, 12), 0, 1, 3);
+        Check.corners("on an upright side to a place of one number",
+            Made.withFeet(3, 3, 3, 5, 3, 9, 8, 9), 0, 3, 2);
         Check.corners("behind the ends", Made.withFeet(0, 0, 5, 0, 0, 5, 10, 0, 0, 10), 0, 3, 4);
     }
 
@@ -157,8 +165,8 @@ public final class TermsTest {
         Check.corners("at the second corner", Made.withFeet(4, 1, 0, 0, 4, 1, 4, 4), 1, 0, 3);
         Check.corners("at the last corner", Made.withFeet(4, 4, 0, 0, 4, 1, 4, 4), 1, 2, 0);
         Check.corners("at each corner", Made.withFeet(4, 4, 4, 1, 0, 0, 0, 0, 4, 4, 4, 1), 2, 1, 0);
-        Check.corners("four at each corner", Made.withFeet(7, 2, 1, 5, 1, 0, 1, 0, 7, 2, 1, 5, 1, 5, 1, 0, 7, 2, 7, 2, 1, 0,
-            1, 5), 2, 0, 1);
+        Check.corners("four at each corner",
+            Made.withFeet(7, 2, 1, 5, 1, 0, 1, 0, 7, 2, 1, 5, 1, 5, 1, 0, 7, 2, 7, 2, 1, 0, 1, 5), 2, 0, 1);
         Check.corners("one more on a side, twice", Made.withFeet(2, 0, 2, 0, 4, 0, 0, 0, 0, 4), 3, 2, 4);
     }
 
@@ -238,7 +246,7 @@ public final class TermsTest {
         Check.same("it tips it", s.tips(0), 1);
     }
 
-    // "THE CENTRE is the sum of GRAMS times place of all parts (those OUT moved) and the person, by the sum of all GRAMS."
+    // "the sum of GRAMS times place of all parts .. and the person, by the sum of all GRAMS"
     private static void centreOfPartsAndPerson() {
         StandTests s = new StandTests();
         for (int i = 0; i < 16; i++) {
@@ -311,6 +319,11 @@ public final class TermsTest {
             s.person(beyond[i][0], beyond[i][1], 1);
             Check.same("of two sides, beyond corner " + i, s.tips(0), due[i]);
         }
+        StandTests less = Made.table(10, 10);
+        less.person(1000, -1, 1);
+        Check.same("over the first one, though less than over the second", less.tips(0), 1);
+        Check.same("a little", less.moment(0, 1), -10);
+        Check.same("much", less.moment(1, 1), -9900);
         int[] xs = {-3, -2, 0, 3, 5, 6, 6, 5, 3, 0, -2, -3};
         int[] ys = {3, 1, 0, 0, 1, 3, 6, 8, 9, 9, 8, 6};
         StandTests s = new StandTests();
